@@ -317,9 +317,7 @@ public final class StreamPlayer {
         requireState(stream.isPlayable());
         for (int k = 0; k <= GREATEST_TRIED_MULTIPLE; k++) {
             int threshold = Math.min(k * stream.valueOf(SEGMENT_LENGTH), GREATEST_THRESHOLD);
-            scratch.begin(stream.valueOf(MODE), threshold);
-            scratch.advance(milliseconds);
-            if (scratch.accounts.stalls == 0) {
+            if (playsWithoutStall(threshold, milliseconds)) {
                 return k;
             }
         }
@@ -355,6 +353,15 @@ public final class StreamPlayer {
         scratch.begin(mode, stream.valueOf(START_THRESHOLD));
         scratch.advance(milliseconds);
         return scratch.points();
+    }
+
+    private boolean playsWithoutStall(int startThreshold, int milliseconds) {
+        scratch.begin(stream.valueOf(MODE), startThreshold);
+        // The first stall is answer enough.
+        for (int i = 0; i < milliseconds && scratch.accounts.stalls == 0; i++) {
+            scratch.advance(1);
+        }
+        return scratch.accounts.stalls == 0;
     }
 
     private static long mix(long print, long number) {
