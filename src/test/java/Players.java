@@ -38,6 +38,16 @@ final class Players {
         }
     }
 
+    /** Lets more time pass than one call takes, and returns the position then. */
+    static int run(StreamPlayer x, int milliseconds) {
+        int left = milliseconds;
+        while (left > 20000) {
+            x.run(20000);
+            left -= 20000;
+        }
+        return x.run(left);
+    }
+
     /**
      * One rung of 100 bits a millisecond, three segments of 100 ms (of 8500, 9200 and 9900 bits),
      * no latency, thresholds of one segment.
