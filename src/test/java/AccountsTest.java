@@ -298,7 +298,7 @@ public final class AccountsTest {
             Check.due("there is no 301st", x.timeLine(300), -1);
             Check.due("the first one stays", x.timeLine(0), 's');
         });
-        Check.sentence("Time line", "The first 300 are kept. (not the last ones)", () -> {
+        Check.sentence("Time line, not the last ones", "The first 300 are kept.", () -> {
             // One segment comes with millisecond 84999, and starts; it ends at 85099.
             StreamPlayer x = Players.simple(0);
             x.clear();

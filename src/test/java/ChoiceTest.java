@@ -366,7 +366,7 @@ public final class ChoiceTest {
     }
 
     private static void audio() {
-        Check.sentence("Choice", "whose rate times 500 is at most the estimate times the safety", () -> {
+        Check.sentence("Choice, audio", "whose rate times 500 is at most the estimate times the safety", () -> {
             Check.due("just as much", audioRungAfter(1000, 100, 100, 160), 1);
             Check.due("just more", audioRungAfter(1000, 100, 100, 161), 0);
             // 85000 * 80 / 500 = 13600
@@ -374,7 +374,7 @@ public final class ChoiceTest {
             Check.due("just more of much", audioRungAfter(85000, 50000, 100, 13601), 0);
             Check.due("two rungs up at once", audioRungAfter(1000, 100, 100, 120, 160), 2);
         });
-        Check.sentence("Choice", "for audio, or rung 0 if there is none", () ->
+        Check.sentence("Choice, audio", "or rung 0 if there is none", () ->
             Check.due("none", audioRungAfter(1000, 100, 200, 300), 0));
     }
 }

@@ -50,7 +50,7 @@ public final class RefusalTest {
 
     private static void refused(String promise, String words, Class<? extends RuntimeException> want,
             Situation[] when, Ask... calls) {
-        Check.sentence(promise, "Throws " + want.getSimpleName() + " " + words, () -> {
+        Check.sentence(promise + ", " + want.getSimpleName(), words, () -> {
             for (Situation situation : when) {
                 for (int i = 0; i < calls.length; i++) {
                     refuse(situation + ", call " + (i + 1), want, situation, calls[i]);
@@ -91,7 +91,7 @@ public final class RefusalTest {
             x -> x.addPhase(5, MIN), x -> x.addPhase(5, MAX), x -> x.addPhase(0, -1));
         refused("Promise 4", "if there is a session", STATE, IN_SESSION,
             x -> x.addPhase(1, 0), x -> x.addPhase(100000, 100000));
-        refused("Promise 4", "if there are 20 phases", STATE, only(Situation.FULL),
+        refused("Promise 4", "there are 20 phases", STATE, only(Situation.FULL),
             x -> x.addPhase(1, 0), x -> x.addPhase(100000, 100000));
         refused("Promise 5", "if there is a session", STATE, IN_SESSION, x -> x.clear());
         refused("Promise 6", "if time is negative", ARGUMENT, ALWAYS,
@@ -108,58 +108,59 @@ public final class RefusalTest {
             x -> x.addRung(1, 0), x -> x.addRung(1, -1), x -> x.addRung(1, 50001),
             x -> x.addRung(0, MIN), x -> x.addRung(0, MAX), x -> x.addRung(1, MAX));
         // The greatest rates are 200 of video and 20 of audio.
-        refused("Promise 3", "if rate is not greater than that of the rung below", ARGUMENT,
+        refused("Promise 3", "not greater than that of the rung below", ARGUMENT,
             Situation.WITH_RUNGS,
             x -> x.addRung(0, 200), x -> x.addRung(0, 199), x -> x.addRung(0, 1),
             x -> x.addRung(1, 20), x -> x.addRung(1, 19), x -> x.addRung(1, 1));
-        refused("Promise 3", "if rate is not greater than that of the rung below", ARGUMENT,
+        refused("Promise 3", "not greater than that of the rung below", ARGUMENT,
             only(Situation.FULL), x -> x.addRung(0, 600), x -> x.addRung(1, 30));
         refused("Promise 3", "if there is a session", STATE, IN_SESSION,
             x -> x.addRung(0, 201), x -> x.addRung(0, 50000),
             x -> x.addRung(1, 21), x -> x.addRung(1, 50000));
-        refused("Promise 3", "if the ladder is full", STATE, only(Situation.FULL),
+        refused("Promise 3", "the ladder is full", STATE, only(Situation.FULL),
             x -> x.addRung(0, 601), x -> x.addRung(0, 50000),
             x -> x.addRung(1, 31), x -> x.addRung(1, 50000));
     }
 
     private static void sizes() {
-        refused("Promise 7", "if there is no such track", INDEX, ALWAYS,
+        String words = "if there is no such track, rung or segment";
+        refused("Promise 7, tracks", words, INDEX, ALWAYS,
             x -> x.size(-1, 0, 0), x -> x.size(2, 0, 0),
             x -> x.size(MIN, 0, 0), x -> x.size(MAX, 0, 0));
-        refused("Promise 7", "if there is no such rung", INDEX, ALWAYS,
+        refused("Promise 7, rungs that there never are", words, INDEX, ALWAYS,
             x -> x.size(0, -1, 0), x -> x.size(1, -1, 0), x -> x.size(0, 6, 0),
             x -> x.size(1, 3, 0), x -> x.size(0, MIN, 0), x -> x.size(1, MAX, 0));
-        refused("Promise 7", "if there is no such rung", INDEX, Situation.WITH_RUNGS,
+        refused("Promise 7, one rung more", words, INDEX, Situation.WITH_RUNGS,
             x -> x.size(0, 2, 0), x -> x.size(1, 1, 0));
-        refused("Promise 7", "if there is no such rung", INDEX, only(Situation.NEW),
+        refused("Promise 7, empty ladders", words, INDEX, only(Situation.NEW),
             x -> x.size(0, 0, 0), x -> x.size(1, 0, 0));
-        refused("Promise 7", "if there is no such rung", INDEX, only(Situation.NO_VIDEO),
+        refused("Promise 7, an empty ladder", words, INDEX, only(Situation.NO_VIDEO),
             x -> x.size(0, 0, 0));
-        refused("Promise 7", "if there is no such segment", INDEX, ALWAYS,
+        refused("Promise 7, segments that there never are", words, INDEX, ALWAYS,
             x -> x.size(0, 0, -1), x -> x.size(1, 0, -1), x -> x.size(0, 0, 200),
             x -> x.size(0, 0, MIN), x -> x.size(1, 0, MAX));
-        refused("Promise 7", "if there is no such segment", INDEX, Situation.WITH_RUNGS,
+        refused("Promise 7, one segment more", words, INDEX, Situation.WITH_RUNGS,
             x -> x.size(0, 0, 7), x -> x.size(1, 0, 7));
-        refused("Promise 7", "if there is no such segment", INDEX, only(Situation.FULL),
+        refused("Promise 7, one segment more than 30", words, INDEX, only(Situation.FULL),
             x -> x.size(0, 0, 30), x -> x.size(1, 0, 30));
     }
 
     private static void session() {
         refused("Promise 8", "if there is a session", STATE, IN_SESSION, x -> x.start());
-        refused("Promise 8", "if there are no rungs of video", STATE, only(Situation.NO_VIDEO),
+        refused("Promise 8", "there are no rungs of video", STATE, only(Situation.NO_VIDEO),
             x -> x.start());
-        refused("Promise 8", "if there are no phases", STATE, only(Situation.NO_PHASES),
-            x -> x.start());
-        refused("Promise 8", "if there are neither", STATE, only(Situation.NEW), x -> x.start());
+        refused("Promise 8", "no phases", STATE, only(Situation.NO_PHASES), x -> x.start());
+        refused("Promise 8, a new object", "there are no rungs of video, or no phases", STATE,
+            only(Situation.NEW), x -> x.start());
         refused("Promise 9", "if there is no session", STATE, NO_SESSION, x -> x.stop());
         refused("Promise 10", "if milliseconds is out of its range", ARGUMENT, ALWAYS,
             x -> x.run(-1), x -> x.run(20001), x -> x.run(MIN), x -> x.run(MAX));
         refused("Promise 10", "if there is no session", STATE, NO_SESSION,
             x -> x.run(0), x -> x.run(1), x -> x.run(20000));
-        Check.sentence("Promise 10", "Throws IllegalStateException if its time would become greater "
-            + "than 10000000", RefusalTest::beyondTheLastTime);
-        Check.sentence("Promise 10", "Throws IllegalArgumentException before that",
-            RefusalTest::argumentBeforeTheLastTime);
+        Check.sentence("Promise 10, IllegalStateException", "its time would become greater than 10000000",
+            RefusalTest::beyondTheLastTime);
+        Check.sentence("Promise 10, at the last time", "Throws IllegalArgumentException if milliseconds is "
+            + "out of its range", RefusalTest::argumentBeforeTheLastTime);
     }
 
     /** It takes 503 calls to come here, and an object has 512. */
@@ -177,13 +178,13 @@ public final class RefusalTest {
 
     private static void beyondTheLastTime() {
         StreamPlayer x = atTime9999999();
+        long before = x.fingerprint();
         Check.fails("two more", STATE, () -> x.run(2));
-        Check.due("still one before the last time", x.time(), 9999999);
+        Check.due("nothing is changed", x.fingerprint(), before);
         Check.due("one more", x.run(1), 0);
-        Check.fails("one beyond it", STATE, () -> x.run(1));
-        Check.due("no time passes", x.run(0), 0);
-        Check.fails("far beyond it", STATE, () -> x.run(20000));
+        Check.fails("one beyond the last time", STATE, () -> x.run(1));
         Check.due("the last time", x.time(), 10000000);
+        Check.due("no time passes", x.run(0), 0);
         Check.due("stop", x.stop(), 10000000);
     }
 
@@ -268,7 +269,7 @@ public final class RefusalTest {
 
     /** Each of these calls is wrong in every way that the document lists for it. */
     private static void severalApply() {
-        String words = "of several exceptions that apply, for it is listed first";
+        String words = "If several exceptions apply to a call, the one that is listed first is thrown.";
         refused("Exceptions", words, INDEX, IN_SESSION,
             x -> x.setParameter(15, -1), x -> x.setParameter(-1, 70000),
             x -> x.addRung(2, 0), x -> x.addRung(-1, 50001));

@@ -34,8 +34,8 @@ public final class SessionTest {
         });
         Check.sentence("Promise 8", "if there is a session, or there are no rungs of video, or no phases",
             SessionTest::leastThatStarts);
-        Check.sentence("Promise 8", "Starts a session. (a second one)", SessionTest::restart);
-        Check.sentence("Promise 2", "Sets a parameter. (between two sessions)", () -> {
+        Check.sentence("Promise 8, a second one", "Starts a session.", SessionTest::restart);
+        Check.sentence("Promise 2, between sessions", "Sets a parameter.", () -> {
             StreamPlayer x = Players.simple(100);
             x.start();
             Check.due("thresholds of 100", x.run(100), 16);
