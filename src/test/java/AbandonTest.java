@@ -181,27 +181,14 @@ public final class AbandonTest {
             Check.due("none yet", x.wasted(), 0);
             x.run(1);
             Check.due("20 ms of 10 bits", x.wasted(), 200);
-            StreamPlayer twice = threeRungs();
+            StreamPlayer twice = Players.threeRungs();
             twice.run(4);
             Check.due("twice 10 bits", twice.wasted(), 20);
         });
     }
 
-    /** Segments of rung 0 and 1 come at once, then one of rung 2 by 10 bits a millisecond. */
-    private static StreamPlayer threeRungs() {
-        StreamPlayer x = Players.simple(100);
-        x.clear();
-        Players.set(x, Players.START, 200, Players.GRACE, 0, Players.MODE, 1);
-        Players.set(x, Players.LOW, 0, Players.HIGH, 0);
-        Players.addVideo(x, 100, 200, 1000);
-        x.addPhase(2, 100000);
-        x.addPhase(100000, 10);
-        x.start();
-        return x;
-    }
-
     private static void greatestSuchRung() {
-        StreamPlayer x = threeRungs();
+        StreamPlayer x = Players.threeRungs();
         x.run(2);
         Check.due("two segments", x.downloaded(0), 2);
         x.run(1);

@@ -65,7 +65,7 @@ public final class AccountsTest {
             counts("ended", x, 2, 0, 3, 0);
         });
         Check.sentence("Promise 23", "1 abandoned downloads, 2 finished downloads", () -> {
-            StreamPlayer x = abandoning();
+            StreamPlayer x = Players.threeRungs();
             x.run(2);
             counts("two have come", x, 0, 0, 2, 1);
             x.run(1);
@@ -77,19 +77,6 @@ public final class AccountsTest {
         });
         Check.sentence("Promise 23", "pairs of successive downloaded segments of video of different rungs",
             AccountsTest::switches);
-    }
-
-    /** Segments of rung 0 and 1 come at once, then rung 2 comes by 10 bits a millisecond. */
-    private static StreamPlayer abandoning() {
-        StreamPlayer x = Players.simple(100);
-        x.clear();
-        Players.set(x, Players.START, 60000, Players.GRACE, 0, Players.MODE, 1);
-        Players.set(x, Players.LOW, 0, Players.HIGH, 0);
-        Players.addVideo(x, 100, 200, 1000);
-        x.addPhase(2, 100000);
-        x.addPhase(100000, 10);
-        x.start();
-        return x;
     }
 
     private static void switches() {
@@ -124,7 +111,7 @@ public final class AccountsTest {
 
     private static void wasted() {
         Check.sentence("Promise 24", "Returns the number of bits.", () -> {
-            StreamPlayer x = abandoning();
+            StreamPlayer x = Players.threeRungs();
             Check.due("at first", x.wasted(), 0);
             x.run(2);
             Check.due("what comes is not wasted", x.wasted(), 0);

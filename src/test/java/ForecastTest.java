@@ -320,20 +320,24 @@ public final class ForecastTest {
             Check.due("20000: it never starts", Players.simple(0).leastStart(20000), 1);
         });
         Check.sentence("Promise 31", "but the start threshold k * D (60000, if that is greater)", () -> {
-            // 8500 bits and more a segment, by one a millisecond and less: the first one comes late.
+            // By one bit a millisecond, the first two segments are there with 8499 and 17699.
             StreamPlayer x = Players.swift(30, Players.LENGTH, 10000);
             x.clear();
             Players.addVideo(x, 1);
             x.addPhase(100000, 1);
-            Check.due("one segment of 10000 lasts until 18500", x.leastStart(20000), 1);
+            Check.due("the second one is in time for 18499", x.leastStart(20000), 1);
             x.clear();
             Players.addVideo(x, 1);
             x.addPhase(4250, 2);
             x.addPhase(100000, 0);
-            Check.due("until 14250, when the next one is not there", x.leastStart(14249), 1);
-            Check.due("so that it stalls", x.leastStart(20000), 2);
+            // The first one is there with 4249, and no other comes.
+            Check.due("it lasts up to 14248", x.leastStart(14249), 1);
+            Check.due("then it stalls, but a threshold of 20000 does not let it start",
+                x.leastStart(14250), 2);
             x.setParameter(Players.START, 0);
-            Check.due("whatever threshold is set", x.leastStart(20000), 2);
+            Check.due("whatever threshold is set", x.leastStart(14250), 2);
+            x.setParameter(Players.START, 60000);
+            Check.due("also the greatest one", x.leastStart(14249), 1);
         });
     }
 
@@ -366,14 +370,11 @@ public final class ForecastTest {
         });
     }
 
-    private static void unchanged(String what, Situation situation, RefusalTest.Ask call) {
+    private static void unchanged(String what, Situation situation, Snapshot.Ask call) {
         StreamPlayer x = situation.make();
         StreamPlayer twin = situation.make();
         call.of(x);
-        Check.same(what, Snapshot.of(x), Snapshot.of(twin));
-        Check.same(what + ", later: start", () -> x.start(), () -> twin.start());
-        Check.same(what + ", later: run", () -> x.run(400), () -> twin.run(400));
-        Check.same(what + ", later", Snapshot.of(x), Snapshot.of(twin));
+        Snapshot.compare(what, x, twin);
     }
 
     private static long print(long... numbers) {

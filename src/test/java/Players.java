@@ -71,4 +71,19 @@ final class Players {
         x.addPhase(1000, 100000);
         return x;
     }
+
+    /**
+     * A session in which segments of rung 0 and 1 come within a millisecond each, then one of rung 2
+     * comes by 10 bits a millisecond and is abandoned for rung 1, and that one for rung 0.
+     */
+    static StreamPlayer threeRungs() {
+        StreamPlayer x = simple(100);
+        x.clear();
+        set(x, START, 60000, GRACE, 0, MODE, 1, LOW, 0, HIGH, 0);
+        addVideo(x, 100, 200, 1000);
+        x.addPhase(2, 100000);
+        x.addPhase(100000, 10);
+        x.start();
+        return x;
+    }
 }

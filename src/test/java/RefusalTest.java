@@ -3,10 +3,6 @@
  * and nothing changed behind it, neither what can be seen at once nor what comes later.
  */
 public final class RefusalTest {
-    interface Ask {
-        long of(StreamPlayer player);
-    }
-
     private static final Class<IndexOutOfBoundsException> INDEX = IndexOutOfBoundsException.class;
     private static final Class<IllegalArgumentException> ARGUMENT = IllegalArgumentException.class;
     private static final Class<IllegalStateException> STATE = IllegalStateException.class;
@@ -49,7 +45,7 @@ public final class RefusalTest {
     }
 
     private static void refused(String promise, String words, Class<? extends RuntimeException> want,
-            Situation[] when, Ask... calls) {
+            Situation[] when, Snapshot.Ask... calls) {
         Check.sentence(promise + ", " + want.getSimpleName(), words, () -> {
             for (Situation situation : when) {
                 for (int i = 0; i < calls.length; i++) {
@@ -60,14 +56,11 @@ public final class RefusalTest {
     }
 
     private static void refuse(String what, Class<? extends RuntimeException> want,
-            Situation situation, Ask call) {
+            Situation situation, Snapshot.Ask call) {
         StreamPlayer x = situation.make();
         StreamPlayer twin = situation.make();
         Check.fails(what, want, () -> call.of(x));
-        Check.same(what + ", behind it", Snapshot.of(x), Snapshot.of(twin));
-        Check.same(what + ", later: start", () -> x.start(), () -> twin.start());
-        Check.same(what + ", later: run", () -> x.run(400), () -> twin.run(400));
-        Check.same(what + ", later", Snapshot.of(x), Snapshot.of(twin));
+        Snapshot.compare(what, x, twin);
     }
 
     private static void settings() {

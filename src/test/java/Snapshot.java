@@ -1,5 +1,10 @@
 /** All that can be seen of a player from outside, as a text; it leaves the player as it was. */
 final class Snapshot {
+    /** A call that is asked of a player. */
+    interface Ask {
+        long of(StreamPlayer player);
+    }
+
     private static final int PARAMETERS = 15;
     private static final int SEGMENTS_LOOKED_AT = 8;
     private static final int SIGNS_LOOKED_AT = 5;
@@ -22,6 +27,14 @@ final class Snapshot {
         shot.forecasts();
         shot.say("fingerprint", player::fingerprint);
         return shot.text.toString();
+    }
+
+    /** Two players must be the same now, and still so when both have gone on. */
+    static void compare(String what, StreamPlayer x, StreamPlayer twin) {
+        Check.same(what + ", behind it", of(x), of(twin));
+        Check.same(what + ", later: start", x::start, twin::start);
+        Check.same(what + ", later: run", () -> x.run(400), () -> twin.run(400));
+        Check.same(what + ", later", of(x), of(twin));
     }
 
     private void say(String name, Check.Call call) {
